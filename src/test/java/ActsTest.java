@@ -41,6 +41,7 @@ public final class ActsTest {
         Calls.bring(x, 0, 253, 0, 0);
         due("29 256", x.seal(0), 1);
         Calls.duePatch("29 256", x, 0, 253, 1, 0);
+        due("29 256 it was", x.seal(0), 0);
         Calls.bring(x, 0, 0, 0);
         due("29 of nothing", x.seal(0), 1);
         Calls.duePatch("29 of nothing", x, 0, 0, 1);

@@ -156,6 +156,21 @@ public final class MakeTest {
         dueAnchor("38 all given", x, 1, 5, 15, 4, 0, 0);
     }
 
+    private static void promise38later() {
+        TailPatches x = Calls.with(Calls.rising(100, 40), Calls.row(110, 111, 112, 113, 200, 127, 116, 117, 130, 131,
+                120, 201, 134, 135, 136, 137));
+        x.terms(2, 3);
+        // FORWARD 4 .. 10, BACK 5 .. 11: of 5 .. 10 the first three are worth more here, the others there.
+        dueAnchor("38 the first", x, 0, 0, 0, 0, 0, 0);
+        dueAnchor("38 between later ones", x, 1, 0, 10, 4, 4, 0);
+        dueAnchor("38 between later ones", x, 2, 12, 34, 4, 0, 4);
+        due("39 the last that is the first one's", x.origin(7, 0), 17);
+        due("39 the first that is the next one's", x.origin(8, 0), 30);
+        x.terms(2, 1);
+        dueAnchor("38 not worth it", x, 1, 0, 10, 4, 0, 0);
+        dueAnchor("38 not worth it", x, 2, 12, 34, 4, 0, 0);
+    }
+
     private static void promise38terms() {
         TailPatches x = Calls.with(Calls.rising(1, 9), Calls.row(5, 6, 7));
         due("38 as long as LEAST", x.count(0), 2);
@@ -338,6 +353,11 @@ public final class MakeTest {
         due("52 short ones cost more than they bring", x.best(0), 3);
         Calls.fresh(x, 15, 16, 17, 18);
         due("52 of like ones the lowest", x.best(0), 2);
+        int[] sevens = new int[20];
+        java.util.Arrays.fill(sevens, 7);
+        Calls.old(x, 1, 1, 1, 1, 1, 1, 1, 1, 7, 7, 7, 7, 7, 7, 7, 7);
+        Calls.fresh(x, sevens);
+        due("52 the highest", x.best(0), 9);
         due("52 what", x.best(2), -1);
         due("52 below", x.best(-1), -1);
         due("52 LEAST stays", x.count(13), 2);
@@ -364,6 +384,7 @@ public final class MakeTest {
         promise36();
         promise37();
         promise38();
+        promise38later();
         promise38terms();
         promise38reach();
         promise39();

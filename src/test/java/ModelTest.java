@@ -124,6 +124,56 @@ public final class ModelTest {
         return Model.ints(list);
     }
 
+    /** Two pieces of OLD or more, and between them bytes of the one's way or the other's. */
+    private int[] drawTorn(int[] from) {
+        List<Integer> list = new ArrayList<>();
+        int pieces = 2 + random.nextInt(3);
+        int behind = 0;
+        for (int k = 0; k < pieces && from.length > 8; k++) {
+            int first = random.nextInt(from.length - 3);
+            int gap = k == 0 ? random.nextInt(2) : 1 + random.nextInt(9);
+            for (int i = 0; i < gap; i++) {
+                int here = random.nextBoolean() ? behind + i : first - gap + i;
+                boolean there = here >= 0 && here < from.length && random.nextInt(6) > 0;
+                list.add(there ? from[here] : letter());
+            }
+            int n = Math.min(from.length - first, 2 + random.nextInt(5));
+            for (int i = first; i < first + n; i++) {
+                list.add(from[i]);
+            }
+            behind = first + n;
+        }
+        return Model.ints(list.subList(0, Math.min(list.size(), 64)));
+    }
+
+    private void makeTorn() {
+        int[] old = new int[20 + random.nextInt(45)];
+        for (int i = 0; i < old.length; i++) {
+            old[i] = random.nextInt(3) == 0 ? letter() : random.nextInt(200);
+        }
+        feedAll(old);
+        call("file", 0);
+        feedAll(drawTorn(old));
+        call("file", 1);
+        if (random.nextBoolean()) {
+            call("terms", 0, 2 + random.nextInt(3));
+            call("terms", 1, random.nextInt(3));
+            call("terms", 2, 1 + random.nextInt(9));
+            call("terms", 3, random.nextInt(4));
+        }
+        if (random.nextInt(3) == 0) {
+            call("bar", random.nextInt(old.length), 1);
+        }
+        for (int i = 0; i < 5; i++) {
+            for (int what = 0; what < 5; what++) {
+                call("anchor", i, what);
+            }
+        }
+        call("make", random.nextInt(3));
+        call("cheapest", 1);
+        call("best", 0);
+    }
+
     private void drawAndFile() {
         int which = random.nextInt(2);
         int[] other = model.files[1 - which];
@@ -452,7 +502,10 @@ public final class ModelTest {
     private void story() {
         int a = random.nextInt(3);
         int b = random.nextInt(3);
-        switch (random.nextInt(5)) {
+        switch (random.nextInt(6)) {
+            case 5:
+                makeTorn();
+                break;
             case 0:
                 makeOrRecipe(a);
                 call("apply", a);

@@ -190,6 +190,7 @@ public final class RecipeTest {
         Calls.dueListing("50, 51", x, 0,
                 "take 2 at 9;take 2 at 11 by 4;take 1 at 13;say 255,0,10,9;take 1 at 63 by 255");
         Calls.recipe(x, 0, "say 100");
+        due("51 asked first", x.listing(0, 0), 's');
         Calls.dueListing("50, 51 EXTRA alone", x, 0, "say 100");
         Calls.recipe(x, 0, "take 64 at 0");
         Calls.dueListing("50, 51 all", x, 0, "take 64 at 0");

@@ -189,6 +189,9 @@ public final class TakeTest {
         dueOrder("the later one first", x, Calls.row(2, 1), 0, 0);
         Calls.old(x);
         dueOrder("READ alone", x, Calls.row(2, 1), 0, 0);
+        x = withOld(1, 2, 3, 4);
+        Calls.recipe(x, 0, "take 2 at 2;take 2 at 0");
+        due("44 asked first", x.dropped(0, 1), 2);
         due("43 below", x.order(0, -1), -1);
         due("44 what", x.dropped(0, 2), -1);
         due("44 below", x.dropped(0, -1), -1);
