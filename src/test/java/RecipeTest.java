@@ -88,6 +88,21 @@ public final class RecipeTest {
         return row;
     }
 
+    private static void promise12again() {
+        TailPatches x = new TailPatches();
+        StringBuilder text = new StringBuilder("say 1");
+        for (int i = 1; i < 64; i++) {
+            text.append(",").append(i);
+        }
+        for (int i = 0; i < 10; i++) {
+            due("12 one behind another", Calls.recipe(x, 0, text.toString()) > 0 ? 1 : 0, 1);
+            x.apply(0);
+            due("12 the last BYTE", x.byteOf(2, 63), 63);
+            Calls.recipe(x, 0, "times 2(say 1;times 9(again 9 back 2))");
+            due("14 stopped within loops", x.stopped(), 3);
+        }
+    }
+
     private static void promise12stops() {
         int[] old = {1, 2};
         stops(old, "take 2 at 1", -4, 0);
@@ -124,6 +139,14 @@ public final class RecipeTest {
         fault("tak 1 at 0", 0);
         fault("takes 1 at 0", 0);
         fault("Take 1 at 0", 0);
+        fault("sayz 1", 0);
+        fault("asay 1", 0);
+        fault("say{ 1", 3);
+        fault("say` 1", 3);
+        fault("say 1/", 5);
+        fault("say 1:", 5);
+        fault("say 1" + (char) 233, 5);
+        fault("say 1" + (char) 0, 5);
         fault("take", 4);
         fault("take  ", 6);
         fault("take x", 5);
@@ -264,6 +287,7 @@ public final class RecipeTest {
     public static void main(String[] args) {
         promise12bytes();
         promise12runs();
+        promise12again();
         promise12stops();
         promise13();
         promises50and51();

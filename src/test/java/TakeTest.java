@@ -85,6 +85,10 @@ public final class TakeTest {
         flaw(5, 2, 14, 1, 4, 2, 0, 1, 1);
         flaw(3, 2, 14, 1, 4, 2, 0, 1, 0);
         flaw(3, 2, 14, 1, 4, 2, 0, 1, 0, 0, 0);
+        flaw(5, 2, 14, 1, 4, 2, 0, 1, 0, 0, 0, 1);
+        flaw(3, 2, 14, 1, 4, 1, 128, 128, 1, 0, 0, 0, 0);
+        flaw(3, 2, 14, 1, 4, 1, 0, 129, 128, 0, 0, 0, 0);
+        flaw(3, 2, 14, 1, 4, 1, 0, 1, 128, 128, 0, 0, 0);
         flaw(5, 2, 14, 1, 4, 1, 0, 255, 127, 0, 0);
         flaw(3, 2, 14, 1, 4, 255, 127);
         // A SEEK from the PLACE behind a COPY of 0 SPOTS; below 0 again.
@@ -118,6 +122,8 @@ public final class TakeTest {
         flaw(0, 2, 14, 2, 14, 1, 0, 2, 0, 2, 1, 0, 1, 0, 0);
         flaw(0, 2, 14, 3, check(5, 0, 6), 1, 0, 0, 3, 0, 1, 0, 1, 5, 1, 1, 6);
         flaw(5, 2, 14, 3, check(5, 0, 6), 1, 0, 0, 3, 0, 1, 0, 1, 5, 3);
+        flaw(5, 2, 14, 3, check(0, 5, 6), 1, 0, 0, 3, 0, 1, 1, 3, 5, 6, 7);
+        flaw(0, 2, 14, 3, check(0, 5, 6), 1, 0, 0, 3, 0, 1, 1, 2, 5, 6);
         flaw(0, 2, 14, 3, check(5, 5, 6), 1, 0, 0, 3, 0, 2, 2, 5, 1, 6);
         flaw(5, 2, 14, 3, check(5, 5, 6), 1, 0, 0, 3, 0, 2, 2, 5, 2, 6);
     }
@@ -452,6 +458,36 @@ public final class TakeTest {
         dueSaves("for OLD", x, 0, -1, -1);
     }
 
+    /** A PATCH whose CHECK is 256, told by both its BYTES: what it is saved by, as all BYTES tried tell. */
+    private static void promise49twoBytes() {
+        int one = 0;
+        int[] front = new int[0];
+        for (int i = 0; i < 125 * 125 && check(front) != 256; i++) {
+            one = i / 125;
+            int extra = i % 125;
+            front = Calls.row(1, 3 + one, 1, 3 + extra, 1, 0, 0, 1, 0, 0, extra);
+        }
+        due("49 a PATCH with the CHECK 256", check(front), 256);
+        int last = front.length - 1;
+        int[][] spoils = {{last, 250}, {2, 2}, {last + 1, 0}, {last + 2, 5}, {last + 1, 2}, {4, 9}};
+        for (int[] spoil : spoils) {
+            TailPatches x = withOld(one);
+            Model model = new Model();
+            model.files[0] = Calls.row(one);
+            Calls.sealed(x, 0, front);
+            due("49 no FLAW", x.flawOf(0), 0);
+            due("49 spoiled", x.spoil(0, spoil[0], spoil[1]) == x.patch(0, spoil[0]) ? 1 : 0, 0);
+            int[] bytes = new int[x.length(0)];
+            for (int i = 0; i < bytes.length; i++) {
+                bytes[i] = x.patch(0, i);
+            }
+            model.slots[0] = bytes;
+            String what = "BYTE " + spoil[0] + " spoiled";
+            due("49 " + what + ": it can be saved", model.save(0, 0) > 0 ? 1 : 0, 1);
+            dueSaves(what, x, model.save(0, 0), model.save(0, 1), model.save(0, 2));
+        }
+    }
+
     public static void main(String[] args) {
         promise45head();
         promise45parts();
@@ -465,6 +501,7 @@ public final class TakeTest {
         promises25grows();
         promise48();
         promise49();
+        promise49twoBytes();
         Calls.close();
     }
 }
