@@ -169,6 +169,11 @@ public final class MakeTest {
         x.terms(2, 1);
         dueAnchor("38 not worth it", x, 1, 0, 10, 4, 0, 0);
         dueAnchor("38 not worth it", x, 2, 12, 34, 4, 0, 0);
+        Calls.fresh(x, 110, 111, 112, 113, 126, 115, 116, 200, 130, 131, 132, 133);
+        x.terms(3, 0);
+        // In common 4 .. 6, of which one is the next one's way, two the first one's: worth 1 or 2.
+        dueAnchor("38 worth one more", x, 1, 0, 10, 4, 3, 0);
+        dueAnchor("38 worth one more", x, 2, 8, 30, 4, 0, 1);
     }
 
     private static void promise38terms() {
