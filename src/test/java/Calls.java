@@ -1,3 +1,7 @@
+import java.util.ArrayList;
+import java.util.List;
+import java.util.function.IntSupplier;
+
 /** What the tests of the promises have in common: rows of bytes onto the TAPE, answers held against what is due. */
 final class Calls {
     private static int wrong = 0;
@@ -119,5 +123,117 @@ final class Calls {
         due(what, got, by);
         due(what + ": status()", x.status(), by);
         due(what + ": count of these", x.count(6 - by), countAhead + 1);
+    }
+
+    /** What is told of FILES, SLOTS, what is BARRED, acts to undo, TERMS, the RUN, the latest apply(). */
+    static List<Integer> standing(TailPatches x) {
+        List<Integer> all = new ArrayList<>();
+        for (int which = 0; which < 3; which++) {
+            int size = x.size(which);
+            int length = x.length(which);
+            all.add(size);
+            all.add(length);
+            for (int i = 0; i < size; i++) {
+                all.add(x.byteOf(which, i));
+            }
+            for (int i = 0; i < length; i++) {
+                all.add(x.patch(which, i));
+            }
+        }
+        for (int k = 0; k < x.size(0); k++) {
+            all.add(x.sorted(k, 0));
+        }
+        for (int what : new int[] {3, 5, 13, 14, 15, 16, 17}) {
+            all.add(x.count(what));
+        }
+        all.add(x.left());
+        all.add(x.loaded(0));
+        all.add(x.loaded(1));
+        return all;
+    }
+
+    /** The call is REFUSED by that, which is told and counted, and all stands as it was. */
+    static void stays(String what, TailPatches x, IntSupplier call, int by) {
+        List<Integer> ahead = standing(x);
+        int[] counts = new int[6];
+        for (int i = 0; i < 6; i++) {
+            counts[i] = x.count(7 + i);
+        }
+        due(what, call.getAsInt(), by);
+        due(what + ": status()", x.status(), by);
+        for (int i = 0; i < 6; i++) {
+            due(what + ": count(" + (7 + i) + ")", x.count(7 + i), counts[i] + (i == -1 - by ? 1 : 0));
+        }
+        due(what + ": all stands as it was", standing(x).equals(ahead) ? 1 : 0, 1);
+    }
+
+    static int check(int... row) {
+        int check = 1;
+        for (int b : row) {
+            check = (3 * check + b) % 257;
+        }
+        return check;
+    }
+
+    static int[] filled(int value, int n) {
+        int[] row = new int[n];
+        java.util.Arrays.fill(row, value);
+        return row;
+    }
+
+    /** The same text n times, a sign between. */
+    static String many(int n, String text, String between) {
+        StringBuilder all = new StringBuilder();
+        for (int i = 0; i < n; i++) {
+            all.append(i == 0 ? "" : between).append(text);
+        }
+        return all.toString();
+    }
+
+    /** Of each ANCHOR its SPOT, PLACE, length, FORWARD, BACK; there are no others. */
+    static void dueAnchors(String what, TailPatches x, int[]... want) {
+        due(what + ": count(0)", x.count(0), want.length);
+        for (int i = 0; i < want.length; i++) {
+            for (int k = 0; k < 5; k++) {
+                due(what + ": anchor(" + i + ", " + k + ")", x.anchor(i, k), want[i][k]);
+            }
+        }
+        due(what + ": no ANCHOR behind the last", x.anchor(want.length, 0), -1);
+    }
+
+    /** The PLACES that SPOTS are from, -1 for EXTRA ones. */
+    static void duePlaces(String what, TailPatches x, int... want) {
+        due(what + ": size(1)", x.size(1), want.length);
+        for (int i = 0; i < want.length; i++) {
+            due(what + ": origin(" + i + ", 0)", x.origin(i, 0), want[i]);
+        }
+    }
+
+    /** SORTED: the PLACES of the TAILS, and no others. */
+    static void dueSorted(String what, TailPatches x, int... want) {
+        for (int k = 0; k < want.length; k++) {
+            due(what + ": sorted(" + k + ", 0)", x.sorted(k, 0), want[k]);
+        }
+        due(what + ": none behind the last", x.sorted(want.length, 0), -1);
+    }
+
+    /** MATCH of a SPOT: how many BYTES, the PLACE, how many TAILS. */
+    static void dueMatch(String what, TailPatches x, int spot, int size, int place, int tails) {
+        due(what + ": match(" + spot + ", 0)", x.match(spot, 0), size);
+        due(what + ": match(" + spot + ", 1)", x.match(spot, 1), place);
+        due(what + ": match(" + spot + ", 2)", x.match(spot, 2), tails);
+    }
+
+    /** The BYTES of a PATCH from an INDEX on. */
+    static void dueBytes(String what, TailPatches x, int slot, int index, int... want) {
+        for (int i = 0; i < want.length; i++) {
+            due(what + ": patch(" + slot + ", " + (index + i) + ")", x.patch(slot, index + i), want[i]);
+        }
+    }
+
+    /** OUT, when the PATCH is APPLIED. */
+    static void dueOut(String what, TailPatches x, int slot, int... want) {
+        due(what + ": apply(" + slot + ")", x.apply(slot), want.length);
+        dueFile(what, x, 2, want);
     }
 }
