@@ -1,6 +1,8 @@
 import java.util.ArrayList;
 import java.util.List;
 import java.util.function.IntSupplier;
+import java.util.function.Supplier;
+import java.util.function.ToIntFunction;
 
 /** What the tests of the promises have in common: rows of bytes onto the TAPE, answers held against what is due. */
 final class Calls {
@@ -165,6 +167,12 @@ final class Calls {
             due(what + ": count(" + (7 + i) + ")", x.count(7 + i), counts[i] + (i == -1 - by ? 1 : 0));
         }
         due(what + ": all stands as it was", standing(x).equals(ahead) ? 1 : 0, 1);
+    }
+
+    /** The same of an object that is made for it alone. */
+    static void stays(String what, Supplier<TailPatches> made, ToIntFunction<TailPatches> call, int by) {
+        TailPatches x = made.get();
+        stays(what, x, () -> call.applyAsInt(x), by);
     }
 
     static int check(int... row) {

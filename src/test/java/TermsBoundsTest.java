@@ -1,4 +1,5 @@
-import java.util.function.IntSupplier;
+import java.util.function.Supplier;
+import java.util.function.ToIntFunction;
 
 /** Terms, I: each sentence that tells where something ends has a test of its own, in the document's order. */
 public final class TermsBoundsTest {
@@ -207,80 +208,85 @@ public final class TermsBoundsTest {
         due("20 more are 400", x.feed(0, 0, 0, 0, 0), 400);
     }
 
-    private static TailPatches fullTape(int n) {
+    /** A RUN goes on; SLOT 1 has one BYTE alone, SLOT 2 none; the TAPE has 65 bytes. */
+    private static TailPatches running() {
+        TailPatches x = Calls.with(Calls.row(1, 2, 3), Calls.row(4));
+        Calls.recipe(x, 0, "take 2 at 1;say 9");
+        x.begin(0);
+        Calls.bring(x, 1, 7);
+        Calls.tape(x, new int[65]);
+        return x;
+    }
+
+    private static TailPatches full() {
+        return Calls.with(Calls.row(), Calls.rising(0, 64));
+    }
+
+    private static TailPatches longTape() {
         TailPatches x = new TailPatches();
-        Calls.tape(x, new int[n]);
+        Calls.tape(x, new int[301]);
         return x;
     }
 
     /** "REFUSED by: -1 .. The first of these in that order": -1 ahead of all others */
     private static void aNumberIsFirst() {
-        TailPatches run = running();
-        Calls.tape(run, new int[65]);
-        Calls.stays("no FILE 2, a RUN, no room", run, () -> run.file(2), -1);
-        Calls.stays("no FILE -1, a RUN, no room", run, () -> run.file(-1), -1);
-        Calls.stays("write(0)", run, () -> run.write(0), -1);
-        TailPatches x = new TailPatches();
-        Calls.stays("bring: no SLOT, an empty TAPE", x, () -> x.bring(3), -1);
-        Calls.stays("recipe: no SLOT, an empty TAPE", x, () -> x.recipe(-1), -1);
-        Calls.stays("write(0), no RUN", x, () -> x.write(0), -1);
-        Calls.stays("join: no SLOT to, no PATCHES", x, () -> x.join(0, 1, 3), -1);
-        Calls.stays("join: no SLOT other, no PATCH one", x, () -> x.join(0, 3, 0), -1);
-        Calls.stays("join: no SLOT one, no PATCH other", x, () -> x.join(3, 0, 0), -1);
-        Calls.stays("turn: no SLOT to, no PATCH", x, () -> x.turn(0, 3), -1);
-        Calls.stays("spoil: no INDEX, no PATCH", x, () -> x.spoil(0, 300, 0), -1);
-        Calls.stays("spoil: no BYTE, no PATCH", x, () -> x.spoil(0, 0, 256), -1);
-        Calls.stays("bar: no PLACE, none is BARRED there", x, () -> x.bar(64, 0), -1);
-        TailPatches long301 = fullTape(301);
-        Calls.stays("bring: no SLOT, no room", long301, () -> long301.bring(-1), -1);
-        TailPatches full = Calls.with(Calls.row(), Calls.rising(0, 64));
-        Calls.stays("put: no SPOT, no room", full, () -> full.put(65, 0), -1);
-        Calls.stays("put: no BYTE, no room", full, () -> full.put(0, 256), -1);
-        Calls.stays("move: not all are there, the same SPOT", full, () -> full.move(63, 2, 63), -1);
-        Calls.stays("move: none, the same SPOT", full, () -> full.move(5, 0, 5), -1);
-    }
-
-    private static TailPatches running() {
-        TailPatches x = Calls.with(Calls.row(1, 2, 3), Calls.row(4));
-        Calls.recipe(x, 0, "take 2 at 1;say 9");
-        x.begin(0);
-        return x;
+        Supplier<TailPatches> run = () -> running();
+        Calls.stays("no FILE 2, a RUN, no room", run, x -> x.file(2), -1);
+        Calls.stays("no FILE -1, a RUN, no room", run, x -> x.file(-1), -1);
+        Calls.stays("begin: no SLOT, a RUN goes on", run, x -> x.begin(3), -1);
+        Calls.stays("write(0)", run, x -> x.write(0), -1);
+        Supplier<TailPatches> empty = () -> new TailPatches();
+        Calls.stays("bring: no SLOT, an empty TAPE", empty, x -> x.bring(3), -1);
+        Calls.stays("recipe: no SLOT, an empty TAPE", empty, x -> x.recipe(-1), -1);
+        Calls.stays("write(0), no RUN", empty, x -> x.write(0), -1);
+        Calls.stays("join: no SLOT to, no PATCHES", empty, x -> x.join(0, 1, 3), -1);
+        Calls.stays("join: no SLOT other, no PATCH one", empty, x -> x.join(0, 3, 0), -1);
+        Calls.stays("join: no SLOT one, no PATCH other", empty, x -> x.join(3, 0, 0), -1);
+        Calls.stays("turn: no SLOT to, no PATCH", empty, x -> x.turn(0, 3), -1);
+        Calls.stays("spoil: no INDEX, no PATCH", empty, x -> x.spoil(0, 300, 0), -1);
+        Calls.stays("spoil: no BYTE, no PATCH", empty, x -> x.spoil(0, 0, 256), -1);
+        Calls.stays("bar: no PLACE, none is BARRED there", empty, x -> x.bar(64, 0), -1);
+        Calls.stays("bring: no SLOT, no room", () -> longTape(), x -> x.bring(-1), -1);
+        Supplier<TailPatches> full = () -> full();
+        Calls.stays("put: no SPOT, no room", full, x -> x.put(65, 0), -1);
+        Calls.stays("put: no BYTE, no room", full, x -> x.put(0, 256), -1);
+        Calls.stays("move: not all are there, the same SPOT", full, x -> x.move(63, 2, 63), -1);
+        Calls.stays("move: none, the same SPOT", full, x -> x.move(5, 0, 5), -1);
     }
 
     /** "The first of these in that order": -2 ahead of -3, -4; -3 ahead of -4; -4 ahead of -5; -6 is alone */
     private static void theOthersInTheirOrder() {
-        TailPatches x = running();
-        Calls.bring(x, 1, 7);
-        Calls.stays("join: one has a FLAW, the other is none", x, () -> x.join(1, 2, 0), -2);
-        Calls.stays("join: one is none, the other has a FLAW", x, () -> x.join(2, 1, 0), -2);
-        Calls.stays("begin: none, a RUN goes on", x, () -> x.begin(2), -2);
-        Calls.stays("spoil: none, it has no such INDEX", x, () -> x.spoil(2, 99, 0), -2);
-        Calls.stays("seal: none", x, () -> x.seal(2), -2);
-        Calls.stays("begin: a FLAW, a RUN goes on", x, () -> x.begin(1), -3);
-        Calls.stays("join: a FLAW, they don't go together", x, () -> x.join(0, 1, 2), -3);
-        Calls.stays("join: a FLAW, they don't go together", x, () -> x.join(1, 0, 2), -3);
-        Calls.stays("begin: without a FLAW, a RUN goes on", x, () -> x.begin(0), -4);
-        Calls.tape(x, new int[65]);
-        Calls.stays("file: a RUN goes on, no room", x, () -> x.file(0), -4);
-        Calls.stays("file: a RUN goes on, no room", x, () -> x.file(1), -4);
-        due("a RECIPE that can't be read and could not be", Calls.recipe(x, 0, "take 9 at 9;take"), -6);
-        due("a RECIPE that can't be read, no room", Calls.recipe(x, 0, "fill 64 with 1;say 1;"), -6);
+        Supplier<TailPatches> run = () -> running();
+        Calls.stays("join: one has a FLAW, the other is none", run, x -> x.join(1, 2, 0), -2);
+        Calls.stays("join: one is none, the other has a FLAW", run, x -> x.join(2, 1, 0), -2);
+        Calls.stays("begin: none, a RUN goes on", run, x -> x.begin(2), -2);
+        Calls.stays("spoil: none, it has no such INDEX", run, x -> x.spoil(2, 99, 0), -2);
+        Calls.stays("seal: none", run, x -> x.seal(2), -2);
+        Calls.stays("begin: a FLAW, a RUN goes on", run, x -> x.begin(1), -3);
+        Calls.stays("join: a FLAW, they don't go together", run, x -> x.join(0, 1, 2), -3);
+        Calls.stays("join: a FLAW, they don't go together", run, x -> x.join(1, 0, 2), -3);
+        Calls.stays("begin: without a FLAW, a RUN goes on", run, x -> x.begin(0), -4);
+        Calls.stays("file: a RUN goes on, no room", run, x -> x.file(0), -4);
+        Calls.stays("file: a RUN goes on, no room", run, x -> x.file(1), -4);
+        Calls.stays("a RECIPE that can't be read and could not be", run, x -> Calls.recipe(x, 0, "take 9 at 9;take"), -6);
+        Calls.stays("a RECIPE that can't be read, no room", run, x -> Calls.recipe(x, 0, "fill 64 with 1;say 1;"), -6);
     }
 
-    private static void left(String what, TailPatches x, IntSupplier call, int by) {
+    private static void left(String what, Supplier<TailPatches> made, ToIntFunction<TailPatches> call, int by) {
+        TailPatches x = made.get();
         int tape = x.count(6);
         int flaw = x.flaw();
         int fault = x.fault();
         int stopped = x.stopped();
-        Calls.stays(what, x, call, by);
+        Calls.stays(what, x, () -> call.applyAsInt(x), by);
         due(what + ": the TAPE", x.count(6), tape);
         due(what + ": flaw()", x.flaw(), flaw);
         due(what + ": fault()", x.fault(), fault);
         due(what + ": stopped()", x.stopped(), stopped);
     }
 
-    /** A REFUSED call is no act: FILES, SLOTS, BARRED, TERMS, the RUN, the TAPE, what is told of the latest ones stay. */
-    private static void whatIsRefusedChangesNothing() {
+    /** flaw() is 1, stopped() 0, PLACE 1 BARRED, the TAPE has 301 bytes. */
+    private static TailPatches resting() {
         TailPatches x = Calls.with(Calls.row(1, 2, 3, 4), Calls.row(2, 3, 4, 5));
         x.bar(1, 1);
         Calls.recipe(x, 0, "again 1 back 1");
@@ -291,38 +297,59 @@ public final class TermsBoundsTest {
         Calls.tape(x, new int[301]);
         due("flaw() ahead", x.flaw(), 1);
         due("stopped() ahead", x.stopped(), 0);
-        left("terms", x, () -> x.terms(0, 10), -1);
-        left("file, no room", x, () -> x.file(0), -5);
-        left("bring, no room", x, () -> x.bring(0), -5);
-        left("bar, it is so", x, () -> x.bar(1, 1), -4);
-        left("recipe", x, () -> x.recipe(3), -1);
-        left("set, it is so", x, () -> x.set(0, 2), -4);
-        left("cut", x, () -> x.cut(3, 2), -1);
-        left("move", x, () -> x.move(1, 2, 1), -4);
-        left("make", x, () -> x.make(3), -1);
-        left("join", x, () -> x.join(0, 2, 1), -2);
-        left("turn", x, () -> x.turn(2, 1), -2);
-        left("apply", x, () -> x.apply(2), -2);
-        left("begin", x, () -> x.begin(3), -1);
-        TailPatches y = Calls.with(Calls.row(1, 2, 3, 4), Calls.row(2, 3, 4, 5));
-        Calls.recipe(y, 0, "take");
-        y.make(0);
-        y.begin(0);
-        y.write(1);
-        Calls.bring(y, 1, 9);
-        Calls.tape(y, 1, 2, 3);
-        due("fault() ahead", y.fault(), 4);
-        left("file, a RUN", y, () -> y.file(1), -4);
-        left("begin, a RUN", y, () -> y.begin(2), -2);
-        left("write", y, () -> y.write(-1), -1);
-        left("spoil", y, () -> y.spoil(1, 1, 0), -4);
-        left("spoil, it is so", y, () -> y.spoil(1, 0, 9), -4);
-        left("seal, fewer than 2", y, () -> y.seal(1), -4);
-        left("drop", y, () -> y.drop(2), -2);
-        left("swap", y, () -> y.swap(), -4);
-        left("advance", y, () -> y.advance(), -4);
-        due("the latest act is the one that was not REFUSED", y.undo(), 1);
-        due("and the RUN is the one that was not REFUSED", y.left(), 3);
+        return x;
+    }
+
+    /** A REFUSED call is no act: FILES, SLOTS, BARRED, TERMS, the TAPE, what is told of the latest ones stay. */
+    private static void whatIsRefusedChangesNothing() {
+        Supplier<TailPatches> rest = () -> resting();
+        left("terms", rest, x -> x.terms(0, 10), -1);
+        left("file, no room", rest, x -> x.file(0), -5);
+        left("bring, no room", rest, x -> x.bring(0), -5);
+        left("bar, it is so", rest, x -> x.bar(1, 1), -4);
+        left("recipe", rest, x -> x.recipe(3), -1);
+        left("set, it is so", rest, x -> x.set(0, 2), -4);
+        left("cut", rest, x -> x.cut(3, 2), -1);
+        left("move", rest, x -> x.move(1, 2, 1), -4);
+        left("make", rest, x -> x.make(3), -1);
+        left("join", rest, x -> x.join(0, 2, 1), -2);
+        left("turn", rest, x -> x.turn(2, 1), -2);
+        left("apply", rest, x -> x.apply(2), -2);
+        left("begin", rest, x -> x.begin(3), -1);
+    }
+
+    /** fault() is 4, SLOT 1 has one BYTE, a RUN goes on, one BYTE is written, the TAPE has 3 bytes. */
+    private static TailPatches going() {
+        TailPatches x = Calls.with(Calls.row(1, 2, 3, 4), Calls.row(2, 3, 4, 5));
+        Calls.recipe(x, 0, "take");
+        x.make(0);
+        x.begin(0);
+        x.write(1);
+        Calls.bring(x, 1, 9);
+        Calls.tape(x, 1, 2, 3);
+        due("fault() ahead", x.fault(), 4);
+        return x;
+    }
+
+    /** A REFUSED call is no act: the RUN, too, is as it was. */
+    private static void whatIsRefusedLeavesTheRun() {
+        Supplier<TailPatches> run = () -> going();
+        left("file, a RUN", run, x -> x.file(1), -4);
+        left("begin, a RUN", run, x -> x.begin(2), -2);
+        left("write", run, x -> x.write(-1), -1);
+        left("spoil", run, x -> x.spoil(1, 1, 0), -4);
+        left("spoil, it is so", run, x -> x.spoil(1, 0, 9), -4);
+        left("seal, fewer than 2", run, x -> x.seal(1), -4);
+        left("drop", run, x -> x.drop(2), -2);
+        left("swap", run, x -> x.swap(), -4);
+        left("advance", run, x -> x.advance(), -4);
+        TailPatches x = going();
+        x.begin(1);
+        x.swap();
+        due("the latest act is the one that was not REFUSED", x.undo(), 1);
+        due("and the RUN is the one that was not REFUSED", x.left(), 3);
+        due("it goes on", x.write(3), 0);
+        Calls.dueFile("it goes on", x, 0, 2, 3, 4, 5);
     }
 
     public static void main(String[] args) {
@@ -341,6 +368,7 @@ public final class TermsBoundsTest {
         aNumberIsFirst();
         theOthersInTheirOrder();
         whatIsRefusedChangesNothing();
+        whatIsRefusedLeavesTheRun();
         Calls.close();
     }
 }
