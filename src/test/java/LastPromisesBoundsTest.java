@@ -429,6 +429,10 @@ public final class LastPromisesBoundsTest {
 
     /** 53: "0 how many ANCHORS .., 1 PARTS then, 2 BYTES of the PATCH then" */
     private static void promise53made() {
+        for (int what = 0; what < 3; what++) {
+            TailPatches y = Calls.with(Calls.row(1, 2, 3), Calls.row(4, 1, 2, 3));
+            due("53 asked first: " + what, y.count(what), new int[] {2, 2, 18}[what]);
+        }
         TailPatches x = Calls.with(Calls.row(1, 2, 3, 4, 5, 6), Calls.row(4, 5, 6, 1, 2, 3));
         due("53 ANCHORS", x.count(0), 3);
         due("53 PARTS", x.count(1), 2);

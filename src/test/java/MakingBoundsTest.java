@@ -58,6 +58,12 @@ public final class MakingBoundsTest {
         due("of the first 0 are ALIKE", x.sorted(0, 2), 0);
         due("of the second all of the first", x.sorted(1, 2), 1);
         due("of the third all of the second", x.sorted(2, 2), 2);
+        x = Calls.with(Calls.row(1, 2, 1, 9), Calls.row());
+        x.bar(3, 1);
+        Calls.dueSorted("one that ends at a BARRED PLACE", x, 2, 0, 1);
+        x = Calls.with(Calls.row(1, 9, 1, 2), Calls.row());
+        x.bar(1, 1);
+        Calls.dueSorted("the lower one ends at a BARRED PLACE", x, 0, 2, 3);
     }
 
     /** "of like ones the lower PLACE first" */
@@ -166,6 +172,11 @@ public final class MakingBoundsTest {
         Calls.fresh(x, 15, 16, 17, 0, 14, 15, 16);
         Calls.dueAnchors("the first one's way again", x, Calls.row(0, 0, 0, 0, 0), Calls.row(0, 5, 3, 0, 0),
                 Calls.row(4, 4, 3, 0, 0));
+        Calls.fresh(x, 0, 0, 15, 16, 17, 0, 19, 20, 21);
+        Calls.dueAnchors("behind SPOT 0, too: its way goes on", x, Calls.row(0, 0, 0, 0, 0), Calls.row(2, 5, 3, 4, 0));
+        Calls.fresh(x, 0, 0, 15, 16, 17, 0, 23, 24, 25);
+        Calls.dueAnchors("behind SPOT 0, too: another way", x, Calls.row(0, 0, 0, 0, 0), Calls.row(2, 5, 3, 0, 0),
+                Calls.row(6, 13, 3, 0, 0));
     }
 
     /** "(a PLACE that is not in OLD, that is BARRED: not)" */
@@ -218,6 +229,9 @@ public final class MakingBoundsTest {
         TailPatches x = Calls.with(Calls.row(1, 2, 3, 4, 9, 9, 3, 4, 5, 6), Calls.row(1, 2, 3, 4, 5, 6));
         x.terms(1, 0);
         Calls.dueAnchors("four are ALIKE, two are reached", x, Calls.row(0, 0, 0, 2, 0), Calls.row(2, 6, 4, 0, 0));
+        x = Calls.with(Calls.row(9, 3, 0, 0, 3, 4, 5), Calls.row(1, 3, 4, 5));
+        x.terms(2, 3);
+        Calls.dueAnchors("the next one's SPOT is ALIKE, too", x, Calls.row(0, 0, 0, 0, 0), Calls.row(1, 4, 3, 0, 0));
     }
 
     /** "the end of NEW, the end of OLD" */
@@ -295,6 +309,9 @@ public final class MakingBoundsTest {
         TailPatches x = Calls.with(Calls.row(9, 1, 2, 3, 4, 8, 4, 5, 6, 7), Calls.row(1, 2, 3, 4, 5, 6, 7));
         Calls.dueAnchors("SPOT 3 is ALIKE with PLACE 6, too", x, Calls.row(0, 0, 0, 0, 0), Calls.row(0, 1, 4, 0, 0),
                 Calls.row(4, 7, 3, 0, 0));
+        Calls.fresh(x, 77, 77, 1, 2, 3, 4, 5, 6, 7);
+        Calls.dueAnchors("SPOT 5 is ALIKE with PLACE 6, too", x, Calls.row(0, 0, 0, 0, 0), Calls.row(2, 1, 4, 0, 0),
+                Calls.row(6, 7, 3, 0, 0));
         TailPatches y = Calls.with(Calls.rising(100, 18), Calls.row(100, 101, 112, 103, 114, 115, 116, 117));
         y.terms(2, 3);
         Calls.dueAnchors("SPOTS 2 and 3 are reached by both", y, Calls.row(0, 0, 0, 2, 0), Calls.row(4, 14, 4, 0, 2));
@@ -354,6 +371,15 @@ public final class MakingBoundsTest {
         y.terms(2, 3);
         // FORWARD SPOTS 4 .. 10, BACK 5 .. 11; in common 5 .. 10, worth -1 3 3 -1 -1 3 and 3 -1 -1 3 3 -1.
         Calls.dueAnchors("s is 3", y, Calls.row(0, 0, 0, 0, 0), Calls.row(0, 10, 4, 4, 0), Calls.row(12, 34, 4, 0, 4));
+        y.put(0, 7);
+        y.put(0, 8);
+        Calls.dueAnchors("two SPOTS on", y, Calls.row(0, 0, 0, 0, 0), Calls.row(2, 10, 4, 4, 0),
+                Calls.row(14, 34, 4, 0, 4));
+        TailPatches z = Calls.with(Calls.rising(100, 40), Calls.row(120, 101, 102, 103, 124, 105, 126, 127, 128, 129));
+        z.terms(0, 4);
+        z.terms(2, 9);
+        // In common SPOTS 0 .. 5, worth -1 9 9 9 -1 9 and 9 -1 -1 -1 9 -1: s of 4 and of 6 are worth the same.
+        Calls.dueAnchors("s is 4", z, Calls.row(0, 0, 0, 4, 0), Calls.row(6, 26, 4, 0, 2));
     }
 
     /** "of like ones the least" (the shares) */

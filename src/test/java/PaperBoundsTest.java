@@ -196,6 +196,59 @@ public final class PaperBoundsTest {
         dueSave("as it was", x, 0, -1, -1);
     }
 
+    /** A PATCH of NEW's one BYTE from OLD's, EXTRA, whose own CHECK is that. */
+    private static int[] withCheck(int check) {
+        int[] front = new int[0];
+        for (int i = 0; i < 124 * 124 && (i == 0 || Calls.check(front) != check); i++) {
+            int old = i / 124;
+            int fresh = i % 124;
+            front = Calls.row(1, 3 + old, 1, 3 + fresh, 1, 0, 0, 1, 0, 0, fresh);
+        }
+        due("there is one with the CHECK " + check, Calls.check(front), check);
+        return front;
+    }
+
+    private static void dueSaveAsAllTried(String what, int[] old, int[] patch) {
+        TailPatches x = new TailPatches();
+        Calls.old(x, old);
+        Calls.bring(x, 0, patch);
+        Model model = new Model();
+        model.files[0] = old;
+        model.slots[0] = patch;
+        dueSave(what, x, model.save(0, 0), model.save(0, 1), model.save(0, 2));
+    }
+
+    /** "one BYTE of it is another one": the CHECK's own, too, whatever it is; held against all BYTES tried */
+    private static void checksAreSaved() {
+        for (int check : new int[] {0, 1, 2, 127, 128, 254, 255, 256}) {
+            int[] front = withCheck(check);
+            int[] whole = java.util.Arrays.copyOf(front, 13);
+            whole[11] = check / 256;
+            whole[12] = check % 256;
+            for (int[] spoil : new int[][] {{11, 1 - whole[11]}, {11, 2}, {11, 255}, {12, 255 - whole[12]}, {12, 9}, {10, 200},
+                {3, 0}}) {
+                int[] patch = whole.clone();
+                patch[spoil[0]] = spoil[1];
+                dueSaveAsAllTried("CHECK " + check + ", BYTE " + spoil[0] + " " + spoil[1], Calls.row(front[1] - 3), patch);
+            }
+        }
+    }
+
+    /** "one BYTE of it is another one": 255 can be, 256 can not */
+    private static void bytesThatSaveHaveAnEnd() {
+        for (int last = 253; last <= 256; last++) {
+            int check = Calls.check(last);
+            int[] front = check < 128 ? Calls.row(0, 1, 1, check, 1, 0, 0, 1, 0, 0, last)
+                    : Calls.row(0, 1, 1, 128 + check % 128, check / 128, 1, 0, 0, 1, 0, 0, last);
+            int n = front.length;
+            int[] patch = java.util.Arrays.copyOf(front, n + 2);
+            patch[n] = Calls.check(front) / 256;
+            patch[n + 1] = Calls.check(front) % 256;
+            patch[n - 1] = 7;
+            dueSaveAsAllTried("a BYTE " + last, Calls.row(), patch);
+        }
+    }
+
     // ---- BEST ----
 
     /** "BEST: the LEAST with which a PATCH made now would have the fewest BYTES; the lowest." */
@@ -235,6 +288,8 @@ public final class PaperBoundsTest {
         oneByteSaves();
         nothingToSave();
         waysToSave();
+        checksAreSaved();
+        bytesThatSaveHaveAnEnd();
         bestIsTheLowest();
         Calls.close();
     }

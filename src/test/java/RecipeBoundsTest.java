@@ -75,6 +75,22 @@ public final class RecipeBoundsTest {
         fault("take 1 at 1 b y 1", 12);
         fault("fill 1 withs 1", 7);
         fault("saysay 1", 0);
+        String[] words = {"take", "fill", "say", "again", "times"};
+        for (String word : words) {
+            for (int i = 0; i < word.length(); i++) {
+                fault(word.substring(0, i) + "q" + word.substring(i + 1) + " 1", 0);
+            }
+            fault(word.substring(1) + " 1", 0);
+            fault(word.substring(0, word.length() - 1) + " 1", 0);
+        }
+        fault("take 1 qt 0", 7);
+        fault("take 1 aq 0", 7);
+        fault("take 1 at 0 qy 0", 12);
+        fault("take 1 at 0 bq 0", 12);
+        fault("fill 1 qith 0", 7);
+        fault("fill 1 witq 0", 7);
+        fault("again 1 qack 1", 8);
+        fault("again 1 bacq 1", 8);
     }
 
     /** "of digits" */

@@ -443,6 +443,10 @@ public final class TakingBoundsTest {
         Calls.sealed(x, 0, 0, 1, 0, 1, 2, 0, 0, 0, 0, 0, 0, 0, 0);
         due("without a FLAW", x.flawOf(0), 0);
         dueOrder("two PARTS of 0 SPOTS", x, Calls.row(), 0, 0);
+        x = withOld(1, 2);
+        Calls.sealed(x, 0, 2, 14, 2, 14, 2, 0, 2, 0, 1, 0, 0, 1, 2, 0);
+        due("without a FLAW", x.flawOf(0), 0);
+        dueOrder("one of 0 SPOTS reads nothing of what another one writes", x, Calls.row(0), 0, 0);
     }
 
     /** "a COPY writes the PLACES that have the numbers of its SPOTS" */
@@ -494,6 +498,17 @@ public final class TakingBoundsTest {
         Calls.dueFile("the BYTE 3 is gone, it was kept", x, 0, 13, 2, 1, 2);
         x.write(1);
         Calls.dueFile("the BYTE 4, too", x, 0, 13, 14, 1, 2);
+    }
+
+    /** "what is DROPPED": of the RUN's own PATCH, whatever was asked of another one ahead */
+    private static void onlyItsOwnAreDropped() {
+        TailPatches x = withOld(1, 2, 3, 4, 5, 6);
+        Calls.recipe(x, 0, "take 1 at 1;take 3 at 0");
+        Calls.recipe(x, 1, "take 2 at 4;say 9");
+        due("of another one PART 0 is DROPPED", x.order(0, 0), 1);
+        due("its own PART 0 is not", x.begin(1), 3);
+        x.write(3);
+        Calls.dueFile("all its BYTES", x, 0, 5, 6, 9);
     }
 
     /** "OLD has as many BYTES more, of 0, as NEW's size is above its own" */
@@ -676,6 +691,7 @@ public final class TakingBoundsTest {
         theFirstIsNext();
         theFewestAreDropped();
         droppedBytesAreKept();
+        onlyItsOwnAreDropped();
         oldGrows();
         onOrBack();
         differencesInARun();

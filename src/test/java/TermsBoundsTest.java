@@ -183,8 +183,9 @@ public final class TermsBoundsTest {
     /** "CHECK of a row of BYTES: 1, then for each BYTE in turn three times what there is and the BYTE, modulo 257." */
     private static void checksGoRound() {
         // of none 1; 3 and 253 are 256, and 254 257, and 255 258; then 0 and 3, 1 and 0, 3 and 255 once more.
-        int[][] rows = {{}, {0}, {253}, {254}, {255}, {254, 3}, {255, 0}, {255, 255}, {253, 0}, {253, 4}, {1, 2, 3}};
-        int[][] checks = {{0, 1}, {0, 3}, {1, 0}, {0, 0}, {0, 1}, {0, 3}, {0, 3}, {0, 1}, {0, 254}, {0, 1}, {0, 45}};
+        int[][] rows = {{}, {0}, {253}, {254}, {255}, {254, 3}, {255, 0}, {255, 255}, {253, 0}, {253, 4}, {1, 2, 3},
+            {252}};
+        int[][] checks = {{0, 1}, {0, 3}, {1, 0}, {0, 0}, {0, 1}, {0, 3}, {0, 3}, {0, 1}, {0, 254}, {0, 1}, {0, 45}, {0, 255}};
         for (int i = 0; i < rows.length; i++) {
             TailPatches x = new TailPatches();
             Calls.sealed(x, 0, rows[i]);
