@@ -572,7 +572,7 @@ public final class ActPromisesBoundsTest {
 
     /** 33: "(16 are kept)" */
     private static void promise33kept() {
-        for (int acts = 15; acts <= 18; acts++) {
+        for (int acts : new int[] {15, 16, 17, 18, 40, 60}) {
             TailPatches x = new TailPatches();
             for (int i = 0; i < acts; i++) {
                 x.put(i, i);
@@ -580,7 +580,9 @@ public final class ActPromisesBoundsTest {
             int kept = Math.min(acts, 16);
             due("33 kept of " + acts, x.count(5), kept);
             for (int i = kept; i > 0; i--) {
+                due("33 the last one", x.byteOf(1, acts - kept + i - 1), acts - kept + i - 1);
                 due("33 undone", x.undo(), 6);
+                due("33 the last one is gone", x.size(1), acts - kept + i - 1);
                 due("33 can be undone", x.count(5), i - 1);
             }
             due("33 no more of " + acts, x.undo(), -4);
@@ -641,6 +643,53 @@ public final class ActPromisesBoundsTest {
         Calls.dueFile("33 its last BYTE", x, 0, 2, 3, 4, 5);
     }
 
+    /** 33: "FILES, SLOTS, what is BARRED, the RUN are as they were": as long as they can be */
+    private static void promise33long() {
+        int[] old = Calls.rising(0, 64);
+        TailPatches x = new TailPatches();
+        Calls.old(x, old);
+        Calls.recipe(x, 0, "say 9;take 30 at 34;take 33 at 1 by 7");
+        Calls.recipe(x, 1, "fill 64 with 5");
+        x.apply(0);
+        int[] want = new int[64];
+        for (int i = 0; i < 64; i++) {
+            want[i] = x.byteOf(2, i);
+        }
+        x.begin(0);
+        x.write(3);
+        x.write(61);
+        for (int i = 0; i < 64; i++) {
+            due("33 the RUN as APPLIED", x.byteOf(0, i), want[i]);
+        }
+        Calls.recipe(x, 1, "fill 64 with 5");
+        x.begin(1);
+        x.write(64);
+        int[] back = {13, 12, 3, 13};
+        for (int act : back) {
+            due("33 back", x.undo(), act);
+        }
+        due("33 61 are left", x.left(), 61);
+        x.write(61);
+        for (int i = 0; i < 64; i++) {
+            due("33 the RUN once more", x.byteOf(0, i), want[i]);
+        }
+        x = new TailPatches();
+        Calls.old(x, Calls.filled(7, 64));
+        Calls.bring(x, 2, Calls.filled(3, 300));
+        x.bar(63, 1);
+        x.swap();
+        Calls.bring(x, 2, 1);
+        x.bar(63, 0);
+        for (int i = 0; i < 3; i++) {
+            x.undo();
+        }
+        due("33 PLACE 63 is BARRED", x.sorted(63, 0), -1);
+        due("33 the others are not", x.sorted(62, 0), 0);
+        due("33 OLD's last", x.byteOf(0, 63), 7);
+        due("33 300 BYTES", x.length(2), 300);
+        due("33 the last of 300", x.patch(2, 299), 3);
+    }
+
     public static void main(String[] args) {
         promise19();
         promise19refused();
@@ -677,6 +726,7 @@ public final class ActPromisesBoundsTest {
         promise33notRefused();
         promise33none();
         promise33run();
+        promise33long();
         Calls.close();
     }
 }

@@ -152,6 +152,7 @@ public final class LastPromisesBoundsTest {
         due("38 the last one's SPOT", x.anchor(32, 0), 62);
         due("38 the last one's PLACE", x.anchor(32, 1), 0);
         due("38 none behind", x.anchor(33, 0), -1);
+        due("39 the last SPOT's PLACE", x.origin(63, 0), 1);
     }
 
     /** 38: "NONE." */

@@ -242,6 +242,9 @@ public final class MakingBoundsTest {
         due("of another one OLD's end", x.anchor(1, 3), 0);
         int[] all = Calls.rising(0, 64);
         due("both ends", Calls.with(all, all).anchor(0, 3), 64);
+        x = Calls.with(Calls.row(9, 1, 2, 3, 4, 5), Calls.row(0, 0, 0, 0, 0, 0, 1, 2, 3, 0, 5));
+        x.terms(3, 0);
+        due("SPOTS behind OLD's size", x.anchor(1, 3), 2);
     }
 
     /** "the next BARRED PLACE at most" */
@@ -251,6 +254,9 @@ public final class MakingBoundsTest {
             x.bar(place, 1);
             due("PLACE " + place, x.anchor(0, 3), place);
         }
+        TailPatches y = Calls.with(Calls.row(1, 2, 3, 4, 5), Calls.row(1, 2, 3, 4, 5));
+        y.bar(1, 1);
+        due("PLACE 1 alone", y.anchor(0, 3), 1);
     }
 
     /** "the f for which the WORTH of them together is the greatest": GAIN for ALIKE ones, LOSS below 0 for others */
@@ -312,6 +318,10 @@ public final class MakingBoundsTest {
         Calls.fresh(x, 77, 77, 1, 2, 3, 4, 5, 6, 7);
         Calls.dueAnchors("SPOT 5 is ALIKE with PLACE 6, too", x, Calls.row(0, 0, 0, 0, 0), Calls.row(2, 1, 4, 0, 0),
                 Calls.row(6, 7, 3, 0, 0));
+        x = Calls.with(Calls.row(9, 1, 2, 3, 4, 8, 8, 4, 30, 5, 6, 7), Calls.row(1, 2, 3, 4, 77, 5, 6, 7));
+        x.terms(2, 3);
+        Calls.dueAnchors("SPOT 3 is ALIKE with PLACE 7, SPOT 4 with none", x, Calls.row(0, 0, 0, 0, 0),
+                Calls.row(0, 1, 4, 0, 0), Calls.row(5, 9, 3, 0, 0));
         TailPatches y = Calls.with(Calls.rising(100, 18), Calls.row(100, 101, 112, 103, 114, 115, 116, 117));
         y.terms(2, 3);
         Calls.dueAnchors("SPOTS 2 and 3 are reached by both", y, Calls.row(0, 0, 0, 2, 0), Calls.row(4, 14, 4, 0, 2));
@@ -330,9 +340,9 @@ public final class MakingBoundsTest {
 
     /** "a BARRED PLACE" */
     private static void backEndsAtABarredPlace() {
-        TailPatches x = Calls.with(Calls.row(9, 1, 2, 3, 4, 5, 6, 7), Calls.row(8, 8, 8, 1, 2, 0, 4, 5, 6));
+        TailPatches x = Calls.with(Calls.row(8, 1, 2, 3, 4, 5, 6, 7), Calls.row(9, 9, 8, 77, 2, 0, 4, 5, 6));
         x.terms(3, 0);
-        due("none is BARRED", x.anchor(1, 4), 3);
+        due("none is BARRED", x.anchor(1, 4), 4);
         x.bar(1, 1);
         due("PLACE 1", x.anchor(1, 4), 2);
         x.bar(2, 1);
@@ -388,6 +398,39 @@ public final class MakingBoundsTest {
         x.terms(2, 3);
         // In common SPOTS 2 and 3: s of 0 is worth 3 - 1, of 1 -1 - 1, of 2 -1 + 3.
         Calls.dueAnchors("0 and 2 are worth the same", x, Calls.row(0, 0, 0, 2, 0), Calls.row(4, 14, 4, 0, 2));
+    }
+
+    /** "ANCHORS", "REACHES", shares: as many as there is room for, held against the Model */
+    private static void manyAnchors() {
+        int[] places = {5, 12, 3, 10, 1, 8, 15, 6, 13, 4, 11, 2, 9, 0, 7, 14, 0};
+        int[] fresh = new int[64];
+        for (int k = 0; k < 16; k++) {
+            fresh[4 * k] = 4 * places[k];
+            fresh[4 * k + 1] = 4 * places[k] + 1;
+            fresh[4 * k + 2] = (4 * places[k + 1] + 254) % 256;
+            fresh[4 * k + 3] = 4 * places[k] + 3;
+        }
+        int[][] terms = {{2, 1, 1, 0}, {2, 1, 3, 1}, {2, 0, 1, 1}};
+        for (int[] term : terms) {
+            Model model = new Model();
+            model.files[0] = Calls.rising(0, 64);
+            model.files[1] = fresh;
+            TailPatches x = Calls.with(model.files[0], fresh);
+            for (int i = 0; i < 4; i++) {
+                model.terms(i, term[i]);
+                x.terms(i, term[i]);
+            }
+            due("17 ANCHORS", x.count(0), 17);
+            for (int i = 0; i < 17; i++) {
+                for (int what = 0; what < 5; what++) {
+                    due("many: anchor(" + i + ", " + what + ")", x.anchor(i, what), model.anchor(i, what));
+                }
+            }
+            for (int spot = 0; spot < 64; spot++) {
+                due("many: origin(" + spot + ", 0)", x.origin(spot, 0), model.origin(spot, 0));
+            }
+            due("many: BYTES", x.make(0), model.make(0));
+        }
     }
 
     // ---- ORIGINS, PARTS, SEEKS ----
@@ -620,6 +663,7 @@ public final class MakingBoundsTest {
         sharesMayBeNoneOrAll();
         sharesAreTheWorthiest();
         ofLikeSharesTheLeast();
+        manyAnchors();
         differencesGoRound();
         othersAreExtra();
         copiesGoOn();

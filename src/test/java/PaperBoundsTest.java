@@ -108,6 +108,10 @@ public final class PaperBoundsTest {
         dueStay("take 2 at 5;take 2 at 3", 2);
         dueStay("take 2 at 5;take 2 at 5", 2);
         dueStay("take 1 at 63;take 1 at 0", 1);
+        dueStay("take 4 at 0;say 1;take 1 at 3", 4);
+        dueStay("take 4 at 0;say 1;take 1 at 4", 5);
+        dueStay("take 1 at 3;say 1;take 4 at 3", 4);
+        dueStay("take 1 at 3;say 1;take 4 at 4", 5);
     }
 
     /** "the most SPOTS of such" */
@@ -249,6 +253,20 @@ public final class PaperBoundsTest {
         }
     }
 
+    /** "one BYTE of it": of 300 BYTES, too */
+    private static void longPatchesAreSaved() {
+        int[] front = new int[298];
+        System.arraycopy(Calls.row(0, 1, 0, 1, 97), 0, front, 0, 5);
+        int[] patch = java.util.Arrays.copyOf(front, 300);
+        patch[298] = Calls.check(front) / 256;
+        patch[299] = Calls.check(front) % 256;
+        for (int i : new int[] {297, 296, 298, 299, 200, 3}) {
+            int[] spoiled = patch.clone();
+            spoiled[i] = spoiled[i] == 1 ? 2 : 1;
+            dueSaveAsAllTried("300 BYTES, BYTE " + i, Calls.row(), spoiled);
+        }
+    }
+
     // ---- BEST ----
 
     /** "BEST: the LEAST with which a PATCH made now would have the fewest BYTES; the lowest." */
@@ -290,6 +308,7 @@ public final class PaperBoundsTest {
         waysToSave();
         checksAreSaved();
         bytesThatSaveHaveAnEnd();
+        longPatchesAreSaved();
         bestIsTheLowest();
         Calls.close();
     }

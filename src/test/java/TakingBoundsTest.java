@@ -124,6 +124,12 @@ public final class TakingBoundsTest {
         flawOfOne(3, 2, 1);
         flaw(3, 2, 14, 2, 14, 1, 0, 2, 0, 0, 0);
         flaw(3, 2, 14, 2, 14, 1, 0, 2, 0, 1, 0, 2, 5);
+        flaw(0, 2, 14, 1, 12, 1, 0, 0, 1, 0, 0, 9);
+        flaw(3, 2, 14, 1, 12, 1, 0, 0, 1, 0, 0);
+        flaw(3, 2, 14, 1, 12, 1, 0, 0, 1, 0, 1, 0, 1);
+        flaw(3, 2, 14, 1, 12, 1, 0, 0, 1, 0, 1, 0);
+        flaw(3, 2, 14, 1, 12, 1, 0, 0, 1, 0, 2, 1);
+        flaw(3, 2, 14, 1, 12, 1, 0, 0, 1, 0, 2);
     }
 
     /** "5 OLD's size .. is above 64 (once that is known)" */
@@ -149,6 +155,11 @@ public final class TakingBoundsTest {
         flaw(5, 2, 14, 193, 0);
         flaw(5, 2, 14, 65, 128, 128);
         flaw(3, 2, 14, 64);
+        TailPatches y = withOld(1, 2);
+        Calls.recipe(y, 0, "take 2 at 0;say 1");
+        Calls.sealed(y, 1, 2, 14, 65);
+        due("a PATCH without a FLAW, READ ahead", y.flawOf(0), 0);
+        due("NEW's size, whatever was READ ahead", y.flawOf(1), 5);
         TailPatches x = withOld(1, 2);
         int check = Calls.check(new int[64]);
         Calls.sealed(x, 0, joined(check < 128 ? Calls.row(2, 14, 64, check) : Calls.row(2, 14, 64, 128 + check % 128,
@@ -416,6 +427,52 @@ public final class TakingBoundsTest {
             dueLoads("one PAGE more: " + frames, text.toString(), frames, 2 * frames + 2, frames);
         }
         dueLoads("all", "take 64 at 0", 6, 16, 6);
+    }
+
+    /** "64 at most": as many COPIES as there can be, in ORDER, run, JOINED, told; held against the Model */
+    private static void copiesOf64() {
+        StringBuilder text = new StringBuilder("take 1 at 62");
+        for (int i = 1; i < 21; i++) {
+            text.append(";take 1 at ").append((62 + 37 * i) % 64).append(" by ").append(i % 3);
+        }
+        text.append(";again 43 back 21");
+        Model model = new Model();
+        model.files[0] = Calls.rising(0, 64);
+        model.tape.addAll(text.chars().boxed().toList());
+        TailPatches x = withOld(model.files[0]);
+        due("64 COPIES", Calls.recipe(x, 0, text.toString()), model.recipe(0));
+        due("64 COPIES", x.parts(0), 64);
+        due("64: DROPPED", x.dropped(0, 0), model.dropped(0, 0));
+        for (int i = 0; i <= 64; i++) {
+            due("64: order(0, " + i + ")", x.order(0, i), model.order(0, i));
+        }
+        due("64: stay", x.stay(0), model.stay(0));
+        due("64: part", x.part(0, 63, 0), model.part(0, 63, 0));
+        x = withOld(model.files[0]);
+        Calls.recipe(x, 0, text.toString());
+        due("64: listed", x.listed(0), model.listed(0));
+        for (int i = 0; i < model.listed(0); i += 7) {
+            due("64: listing(0, " + i + ")", x.listing(0, i), model.listing(0, i));
+        }
+        due("64: loads", x.apply(0), model.apply(0));
+        due("64: loads", x.loaded(0), model.loaded(0));
+        due("64: begin", x.begin(0), 64);
+        x.write(64);
+        for (int i = 0; i < 64; i++) {
+            due("64: the RUN as APPLIED", x.byteOf(0, i), model.byteOf(2, i));
+        }
+    }
+
+    /** "JOIN": of 64 SPOTS */
+    private static void joinedOf64() {
+        int[] old = Calls.rising(0, 64);
+        TailPatches x = withOld(old);
+        Calls.recipe(x, 0, "take 32 at 32 by 1;take 32 at 0 by 2");
+        x.apply(0);
+        x.advance();
+        Calls.recipe(x, 1, "take 20 at 44 by 3;take 44 at 0");
+        due("joined", x.join(0, 1, 2), x.length(2));
+        Calls.dueListing("64 SPOTS", x, 2, "take 20 at 12 by 5;take 32 at 32 by 1;take 12 at 0 by 2");
     }
 
     // ---- ORDER ----
@@ -687,6 +744,8 @@ public final class TakingBoundsTest {
         allOnceMore();
         theOldestPageGoes();
         copiesOfNoneHaveNoOrder();
+        copiesOf64();
+        joinedOf64();
         whatACopyWrites();
         theFirstIsNext();
         theFewestAreDropped();
