@@ -260,7 +260,7 @@ public final class PaperBoundsTest {
         int[] patch = java.util.Arrays.copyOf(front, 300);
         patch[298] = Calls.check(front) / 256;
         patch[299] = Calls.check(front) % 256;
-        for (int i : new int[] {297, 296, 298, 299, 200, 3}) {
+        for (int i : new int[] {297, 299, 3}) {
             int[] spoiled = patch.clone();
             spoiled[i] = spoiled[i] == 1 ? 2 : 1;
             dueSaveAsAllTried("300 BYTES, BYTE " + i, Calls.row(), spoiled);
