@@ -432,8 +432,9 @@ public final class ActPromisesBoundsTest {
     /** 29: "The last two BYTES of a PATCH are the CHECK of those ahead then, as in a PATCH: 1, if they were not, else 0." */
     private static void promise29() {
         TailPatches x = new TailPatches();
-        int[][] rows = {{0, 0}, {0, 1}, {1, 1}, {253, 0, 0}, {253, 1, 0}, {253, 0, 254}, {253, 1, 254}, {7, 0, 10}, {7, 1, 10}};
-        int[] want = {1, 0, 1, 1, 0, 1, 1, 0, 1};
+        int[][] rows = {{0, 0}, {0, 1}, {1, 1}, {253, 0, 0}, {253, 1, 0}, {253, 0, 254}, {253, 1, 254}, {7, 0, 10}, {252, 0, 255},
+            {252, 1, 255}, {252, 1, 0}, {7, 1, 10}};
+        int[] want = {1, 0, 1, 1, 0, 1, 1, 0, 0, 1, 1, 1};
         for (int i = 0; i < rows.length; i++) {
             Calls.bring(x, 0, rows[i]);
             due("29 row " + i, x.seal(0), want[i]);
@@ -590,6 +591,19 @@ public final class ActPromisesBoundsTest {
         }
     }
 
+    /** 33: "(16 are kept)": the latest ones, however many there were */
+    private static void promise33many() {
+        TailPatches x = Calls.with(Calls.row(), Calls.row(255));
+        for (int i = 0; i < 420; i++) {
+            x.set(0, i % 200);
+        }
+        for (int i = 418; i >= 403; i--) {
+            due("33 of 420", x.undo(), 4);
+            due("33 of 420: the one ahead", x.byteOf(1, 0), i % 200);
+        }
+        due("33 of 420: no more", x.undo(), -4);
+    }
+
     /** 33: "that was not REFUSED"; terms(), feed(), end() and what is told are no acts, either. */
     private static void promise33notRefused() {
         TailPatches x = Calls.with(Calls.row(1), Calls.row(2));
@@ -723,6 +737,7 @@ public final class ActPromisesBoundsTest {
         promise32();
         promise33();
         promise33kept();
+        promise33many();
         promise33notRefused();
         promise33none();
         promise33run();

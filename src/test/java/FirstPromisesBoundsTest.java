@@ -55,6 +55,9 @@ public final class FirstPromisesBoundsTest {
     /** 2: "NONE." */
     private static void promise2none() {
         TailPatches x = Calls.with(Calls.row(1), Calls.row(1));
+        x.make(0);
+        x.apply(0);
+        due("2 OUT has one", x.size(2), 1);
         for (int file : ODD) {
             due("2 size(" + file + ")", x.size(file), -1);
         }
@@ -78,6 +81,12 @@ public final class FirstPromisesBoundsTest {
         }
         due("3 behind the last of 64", x.byteOf(1, 64), -1);
         due("3 of none", x.byteOf(2, 0), -1);
+        x.make(0);
+        x.apply(0);
+        due("3 OUT's last", x.byteOf(2, 63), 63);
+        for (int odd : ODD) {
+            due("3 OUT is there: byteOf(" + odd + ", 0)", x.byteOf(odd, 0), -1);
+        }
         x.cut(0, 1);
         due("3 one that is gone", x.byteOf(1, 63), -1);
         Calls.fresh(x, 5);

@@ -153,6 +153,12 @@ public final class LastPromisesBoundsTest {
         due("38 the last one's PLACE", x.anchor(32, 1), 0);
         due("38 none behind", x.anchor(33, 0), -1);
         due("39 the last SPOT's PLACE", x.origin(63, 0), 1);
+        int[] end = {0, 2, 255, 6, 8};
+        System.arraycopy(end, 0, fresh, 56, 5);
+        Calls.fresh(x, java.util.Arrays.copyOf(fresh, 61));
+        due("38 the last one's way goes on", x.count(0), 30);
+        due("38 the last one's PLACE", x.anchor(29, 1), 0);
+        due("38 the last one REACHES", x.anchor(29, 3), 3);
     }
 
     /** 38: "NONE." */

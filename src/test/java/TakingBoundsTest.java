@@ -463,6 +463,32 @@ public final class TakingBoundsTest {
         }
     }
 
+    /** "DROPPED": one behind many others */
+    private static void droppedBehindOthers() {
+        StringBuilder text = new StringBuilder("take 1 at 63");
+        for (int place = 62; place > 45; place--) {
+            text.append(";take 1 at ").append(place);
+        }
+        text.append(";take 2 at 20 by 9;take 2 at 18");
+        TailPatches x = withOld(Calls.rising(0, 64));
+        due("twenty COPIES", Calls.recipe(x, 0, text.toString()), x.length(0));
+        for (int i = 0; i < 18; i++) {
+            due("twenty: order(0, " + i + ")", x.order(0, i), i);
+        }
+        due("twenty: the 19th is DROPPED", x.order(0, 18), 19);
+        due("twenty: no other", x.order(0, 19), -1);
+        due("twenty: DROPPED", x.dropped(0, 0), 1);
+        due("twenty: its SPOTS", x.dropped(0, 1), 2);
+        x.begin(0);
+        x.write(22);
+        int[] want = new int[22];
+        for (int i = 0; i < 18; i++) {
+            want[i] = 63 - i;
+        }
+        System.arraycopy(Calls.row(29, 30, 18, 19), 0, want, 18, 4);
+        Calls.dueFile("twenty: the RUN", x, 0, want);
+    }
+
     /** "JOIN": of 64 SPOTS */
     private static void joinedOf64() {
         int[] old = Calls.rising(0, 64);
@@ -745,6 +771,7 @@ public final class TakingBoundsTest {
         theOldestPageGoes();
         copiesOfNoneHaveNoOrder();
         copiesOf64();
+        droppedBehindOthers();
         joinedOf64();
         whatACopyWrites();
         theFirstIsNext();
