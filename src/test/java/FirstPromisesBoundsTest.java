@@ -513,6 +513,12 @@ public final class FirstPromisesBoundsTest {
         due("16 all", x.cut(0, 3), 0);
         TailPatches y = Calls.with(Calls.row(), Calls.rising(0, 64));
         due("16 all 64", y.cut(0, 64), 0);
+        Calls.fresh(y, Calls.rising(0, 64));
+        due("16 within 64, far behind", y.cut(40, 3), 61);
+        for (int i = 0; i < 61; i++) {
+            due("16 within 64, SPOT " + i, y.byteOf(1, i), i < 40 ? i : i + 3);
+        }
+        due("16 none behind the last", y.byteOf(1, 61), -1);
         TailPatches z = running();
         due("16 while a RUN goes on", z.cut(0, 1), 1);
     }

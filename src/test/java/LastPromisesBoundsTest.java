@@ -463,6 +463,12 @@ public final class LastPromisesBoundsTest {
         due("53 three ALIKE, the fourth has no PLACE", x.count(4), 3);
         Calls.fresh(x, 1);
         due("53 PLACES without SPOTS", x.count(4), 1);
+        Calls.fresh(x, 1, 2, 3);
+        Calls.old(x, 1, 2);
+        due("53 a PLACE that OLD had is none", x.count(4), 2);
+        Calls.old(x, 1, 2, 3);
+        x.cut(2, 1);
+        due("53 a SPOT that NEW had is none", x.count(4), 2);
         due("53 nothing", new TailPatches().count(4), 0);
         due("53 64", Calls.with(new int[64], new int[64]).count(4), 64);
     }

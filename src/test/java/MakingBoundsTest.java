@@ -127,6 +127,8 @@ public final class MakingBoundsTest {
         Calls.dueAnchors("one more at SPOT 0", x, Calls.row(0, 0, 0, 0, 0), Calls.row(0, 1, 3, 0, 0));
         Calls.fresh(x, 8, 8, 1, 2, 3);
         Calls.dueAnchors("one that ends NEW", x, Calls.row(0, 0, 0, 0, 0), Calls.row(2, 1, 3, 0, 0));
+        x.cut(2, 3);
+        Calls.dueAnchors("none at a SPOT that NEW had", x, Calls.row(0, 0, 0, 0, 0));
     }
 
     /** "is an ANCHOR, if n is LEAST at least" */
@@ -163,6 +165,12 @@ public final class MakingBoundsTest {
         TailPatches y = Calls.with(Calls.row(1, 2, 3, 9, 1, 2, 3), Calls.row(1, 2, 3));
         y.terms(1, 0);
         due("all are ALIKE, SLACK 0", y.count(0), 1);
+        TailPatches z = Calls.with(Calls.row(5, 6, 7, 8, 1, 2), Calls.row(1, 2, 7));
+        z.terms(0, 2);
+        due("the SPOT behind them is ALIKE, none of these two", z.count(0), 2);
+        Calls.old(z, 5, 6, 3, 8, 9, 9, 1, 2);
+        Calls.fresh(z, 5, 6, 0, 1, 2);
+        due("SPOTS ahead of them are ALIKE, none of these two", z.count(0), 2);
     }
 
     /** "the latest ANCHOR's PLACE": not the first one's */

@@ -32,6 +32,7 @@ public final class PaperBoundsTest {
     private static void jumpsCost3() {
         dueCosts("the first", Calls.with(Calls.row(1, 2, 3), Calls.row(1, 2, 3)), 3, 3);
         dueCosts("the first is changed", Calls.with(Calls.rising(1, 4), Calls.row(9, 2, 3, 4)), 4, 4);
+        dueCosts("the first is from PLACE 1", Calls.with(Calls.row(9, 1, 2, 3), Calls.row(1, 2, 3)), 3, 3);
         dueCosts("the first is EXTRA", Calls.with(Calls.row(2, 3, 4), Calls.row(9, 2, 3, 4)), 5, 5);
         TailPatches x = Calls.with(Calls.rising(1, 8), Calls.row(5, 6, 7, 8, 1, 2, 3, 4));
         dueCosts("two COPIES", x, 6, 6);
